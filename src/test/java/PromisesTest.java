@@ -182,6 +182,11 @@ public final class PromisesTest {
         due("left", x.removeStop(0, 0), 0);
         due("no more", x.stop(0, 0, 0), TabLines.NONE);
         due("saved", x.count(5), 6);
+        x.setStop(0, 1, 0, 0);
+        x.setStop(0, 80, 0, 0);
+        due("the one at 80 is left", x.removeStop(0, 0), 1);
+        dueStop(0, 0, 80, 0, 0);
+        due("none is left", x.removeStop(0, 0), 0);
     }
 
     private static void appendCharacter() {
@@ -534,6 +539,8 @@ public final class PromisesTest {
         type("a".repeat(80));
         x.takeText(p);
         due("as many lines as characters", x.lines(p), 80);
+        due("the last one", x.cell(p, 79, 19), 'a');
+        due("none is lost", x.holds(p, 0), 80);
         refused("paragraph", x.lines(1));
         refused("paragraph", x.lines(-1));
     }
@@ -783,6 +790,23 @@ public final class PromisesTest {
         dueField(p, 3, 0, 21, 1, 21, 0, 0);
     }
 
+    private static void stopsAtTheEdges() {
+        x.setNumber(0, 80);
+        x.setStop(0, 1, 0, 3);
+        x.setStop(0, 79, 3, 3);
+        x.setStop(0, 80, 1, 0);
+        int p = paragraph(0, "\ta\t7\tb");
+        dueField(p, 1, 0, 1, 1, 1, 0, 0);
+        dueField(p, 2, 0, 78, 1, 79, 3, 0);
+        dueField(p, 3, 0, 79, 1, 80, 1, 0);
+        due("leader of the first", x.cell(p, 0, 0), '_');
+        due("leaders", x.holds(p, 1), 1 + 76);
+        type("a\tb");
+        x.takeText(p);
+        x.setStop(0, 2, 0, 1);
+        dueField(p, 1, 0, 2, 1, 2, 0, 0);
+    }
+
     private static void holds() {
         x.setNumber(0, 20);
         x.setStop(0, 8, 0, 1);
@@ -804,6 +828,11 @@ public final class PromisesTest {
         due("spaces of wider lines", x.holds(p, 3), 80 - 14 - 5 - 1);
         x.addParagraph(1);
         due("an empty one", x.holds(1, 3), 80);
+        x.setStop(1, 1, 4, 0);
+        x.setStop(1, 79, 4, 0);
+        x.setStop(1, 80, 4, 0);
+        due("bars of an empty one", x.holds(1, 2), 2);
+        due("spaces beside them", x.holds(1, 3), 78);
     }
 
     private static void linesWith() {
@@ -971,6 +1000,8 @@ public final class PromisesTest {
         fieldBehindPartedWord();
         fresh();
         defaultStops();
+        fresh();
+        stopsAtTheEdges();
     }
 
     public static void main(String[] args) {
