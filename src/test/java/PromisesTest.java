@@ -44,10 +44,11 @@ public final class PromisesTest {
     /** Compares all lines of a paragraph, cell by cell; spaces at the end may be left out. */
     private static void dueLines(int paragraph, String... lines) {
         due("lines", x.lines(paragraph), lines.length);
+        int columns = x.count(0);
         for (int line = 0; line < lines.length; line++) {
             StringBuilder row = new StringBuilder();
             StringBuilder due = new StringBuilder(lines[line]);
-            for (int column = 0; column < x.count(0); column++) {
+            for (int column = 0; column < columns; column++) {
                 row.append((char) x.cell(paragraph, line, column));
             }
             while (due.length() < row.length()) {
@@ -531,8 +532,11 @@ public final class PromisesTest {
         type("ab " + "c".repeat(20) + " " + "d".repeat(41) + " ee");
         x.takeText(p);
         dueLines(p, "  ab", "c".repeat(20), "d".repeat(20), "d".repeat(20), "d ee");
-        type("1234567890".repeat(4));
-        x.takeText(p);
+        fresh();
+        x.setNumber(0, 20);
+        x.setIndent(0, 0, 2);
+        x.setIndent(0, 1, 0);
+        p = paragraph(0, "1234567890".repeat(4));
         dueLines(p, "  123456789012345678", "90123456789012345678", "90");
         x.setIndent(0, 0, 19);
         x.setIndent(0, 1, 19);
@@ -872,12 +876,14 @@ public final class PromisesTest {
     }
 
     private static void leastColumnsByTrying() {
-        x.setNumber(1, 20);
-        x.setStop(0, 24, 2, 0);
-        x.setStop(0, 41, 0, 0);
-        x.setIndent(0, 1, 11);
-        int p = paragraph(0, "aaaa\tb bbb bbbbb\t" + "c".repeat(20) + "\t\tddd.dd ddddddddd e");
         for (int lines = 1; lines <= 9; lines++) {
+            fresh();
+            x.setNumber(1, 20);
+            x.setStop(0, 24, 2, 0);
+            x.setStop(0, 41, 0, 0);
+            x.setIndent(0, 1, 11);
+            int p = paragraph(0,
+                    "aaaa\tb bbb bbbbb\t" + "c".repeat(20) + "\t\tddd.dd ddddddddd e");
             int least = TabLines.NONE;
             for (int w = 80; w >= 20; w--) {
                 if (x.linesWith(p, w) <= lines) {
