@@ -282,8 +282,9 @@ public final class ArgumentsTest {
     }
 
     private static void orderOfCodes() {
-        Checks.sentence("If several error codes apply, the one that is named first in the"
-                + " description of the method is returned");
+        Checks.sentence("A method that returns an error code changes nothing. If several error codes"
+                + " apply, the one that is named first in the description of the method is"
+                + " returned");
         Checks.refused("setStop", ArgumentsTest::full, x -> x.setStop(1, 9, 0, 0), Checks.FULL);
         first("setStop position", ArgumentsTest::full, x -> x.setStop(1, 81, 0, 0));
         first("setStop kind", ArgumentsTest::full, x -> x.setStop(1, 9, 5, 0));

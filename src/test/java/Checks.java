@@ -7,8 +7,8 @@ import java.util.List;
 import java.util.function.Supplier;
 
 /**
- * What the tests of the edges share: the sentence of the document that is looked at, and comparisons
- * of answers, of all that an object shows, and of whole lines.
+ * What the tests of the edges share: the sentence of the document that is looked at, and
+ * comparisons of answers, of all that an object shows, and of whole lines.
  */
 final class Checks {
     static final int INVALID = TabLines.INVALID_ARGUMENT;
@@ -130,7 +130,7 @@ final class Checks {
         }
     }
 
-    /** The text of the paragraph is told if the answer is wrong, but takes no calls if it is right. */
+    /** Tells the text of the paragraph if the answer is wrong, and takes no calls if it is right. */
     private static void dueOf(TabLines x, int paragraph, String what, int got, int due) {
         String of = got == due ? "" : " of <" + textOf(x, paragraph) + ">";
         due(what + of, got, due);
@@ -194,7 +194,7 @@ final class Checks {
         }
     }
 
-    /** A call that answers this code and, as each call that answers an error code, changes nothing. */
+    /** A call that answers this error code, and changes nothing. */
     static void refused(String what, Supplier<TabLines> made, Call call, int code) {
         due(what, call.on(made.get()), code);
         unchanged(what, made, call);

@@ -68,6 +68,19 @@ public final class LineEdgesTest {
         Checks.dueLines(made(20, 0, 4, "", "a,b .c. 1,2"), 0, "a,b .c. 1,2");
     }
 
+    private static void fieldZero() {
+        Checks.sentence("The field 0 flows from the first indent of the line 0.");
+        for (int first = 0; first <= 19; first++) {
+            TabLines x = made(20, first, 4, "l1;", "a");
+            Checks.dueField(x, 0, 0, 0, first, 1, -9, -9, -9);
+            Checks.due("cell", x.cell(0, 0, first), 'a');
+            x = made(20, first, 4, "l1;", "");
+            Checks.dueField(x, 0, 0, 0, first, 0, -9, -9, -9);
+            x = made(20, first, 4, "l20;", "\tb");
+            Checks.dueField(x, 0, 0, 0, first, 0, -9, -9, -9);
+        }
+    }
+
     private static void indents() {
         Checks.sentence("with a column c, which is the first indent on its line 0, and the hanging"
                 + " indent at the beginning of each further line.");
@@ -169,6 +182,17 @@ public final class LineEdgesTest {
         Checks.dueField(made(40, 0, 4, "l15;", "a\tb\tc"), 0, 2, 0, 24, 1, 24, LEFT, 0);
         Checks.dueField(made(40, 0, 4, "l15;", "a\t\tc"), 0, 2, 0, 16, 1, 16, LEFT, 0);
         firstDefaultStops();
+        Checks.sentence("3 the position of the first default stop");
+        TabLines y = new TabLines();
+        Checks.due("without stops", y.style(0, 3), 8);
+        y.setStop(0, 7, 0, 0);
+        Checks.due("behind 7", y.style(0, 3), 8);
+        y.setStop(0, 8, 0, 0);
+        Checks.due("behind 8", y.style(0, 3), 16);
+        y.setStop(0, 80, 0, 0);
+        Checks.due("behind 80", y.style(0, 3), 88);
+        y.setStop(0, 80, 4, 0);
+        Checks.due("a bar at 80", y.style(0, 3), 16);
     }
 
     private static void firstDefaultStops() {
@@ -292,6 +316,40 @@ public final class LineEdgesTest {
         Checks.dueField(x, 0, 1, 0, 11, 4, 15, POINT, AS_IT_SHOULD);
         x = made(20, 0, 4, "p15;", "aaaaaaaaaa\tbbbb c.ccc");
         Checks.dueField(x, 0, 1, 0, 10, 10, 15, POINT, PASSES);
+    }
+
+    private static void halves() {
+        Checks.sentence("\"/\" is the division rounded down.");
+        for (int n = 1; n <= 29; n++) {
+            TabLines x = made(80, 0, 4, "m40;", "a\t" + row('b', n));
+            Checks.dueField(x, 0, 1, 0, 40 - n / 2, n, 40, MIDDLE, AS_IT_SHOULD);
+        }
+        Checks.dueField(made(20, 0, 4, "m3;", "a\tbbbbb"), 0, 1, 0, 1, 5, 3, MIDDLE, AS_IT_SHOULD);
+        Checks.dueField(made(20, 0, 4, "m3;", "a\tbbbbbb"), 0, 1, 0, 1, 6, 3, MIDDLE, PASSES);
+    }
+
+    private static void behindTheRun() {
+        Checks.sentence("Then c goes behind the run.");
+        TabLines x = made(40, 0, 4, "l10;l12;r15;", "a\tb\tc\td");
+        Checks.dueField(x, 0, 2, 0, 12, 1, 12, LEFT, AS_IT_SHOULD);
+        // The run ends just at the stop, which is not greater than c then.
+        x = made(40, 0, 4, "l10;l12;r15;", "a\tbb\tc");
+        Checks.dueField(x, 0, 2, 0, 14, 1, 15, RIGHT, AS_IT_SHOULD);
+        x = made(40, 0, 4, "r10;l12;", "a\tbb\tc\td");
+        Checks.dueField(x, 0, 1, 0, 8, 2, 10, RIGHT, AS_IT_SHOULD);
+        Checks.dueField(x, 0, 2, 0, 12, 1, 12, LEFT, AS_IT_SHOULD);
+        // Behind an empty field c is at its stop.
+        x = made(40, 0, 4, "m10;l12;", "a\t\tc\td");
+        Checks.dueField(x, 0, 1, 0, 10, 0, 10, MIDDLE, AS_IT_SHOULD);
+        Checks.dueField(x, 0, 2, 0, 12, 1, 12, LEFT, AS_IT_SHOULD);
+        // A run that passes several stops leaves them behind.
+        x = made(40, 0, 4, "r3;l5;l7;l9;", "a\tbbbbbb\tc");
+        Checks.dueField(x, 0, 1, 0, 1, 6, 3, RIGHT, PASSES);
+        Checks.dueField(x, 0, 2, 0, 9, 1, 9, LEFT, AS_IT_SHOULD);
+        // As far as W, behind which there is no stop.
+        x = made(20, 0, 4, "r20;", "a\tbb\tc");
+        Checks.dueField(x, 0, 1, 0, 18, 2, 20, RIGHT, AS_IT_SHOULD);
+        Checks.dueField(x, 0, 2, 1, 4, 1, -9, -9, -9);
     }
 
     private static void passing() {
@@ -449,7 +507,7 @@ public final class LineEdgesTest {
     private static void noRemains() {
         Checks.sentence("What holds nothing else holds a space (code 32).");
         TabLines x = made(20, 0, 4, "r10_;b12;", "aaa\tbb\tccc ddddddddd e" + row('\t', 50));
-        // Line 1 ends at 15; from there one tab comes to 16, and each three of the others fill a line.
+        // Line 1 ends at 15; one tab comes to 16, and each three of the others fill a line.
         Checks.due("many lines", x.lines(0), 19);
         Checks.due("bars on all but line 1", x.holds(0, 2), 18);
         x.removeStop(0, 1);
@@ -495,6 +553,22 @@ public final class LineEdgesTest {
         Checks.due("99 lines", x.leastColumns(0, 99), 20);
     }
 
+    private static void whatColumnsHold() {
+        Checks.sentence("0 characters of its words, 1 leaders, 2 bars, 3 spaces (also those between"
+                + " words)");
+        dueHolds(made(20, 0, 4, "", ""), 0, 0, 0, 20);
+        dueHolds(made(80, 0, 4, "", ""), 0, 0, 0, 80);
+        dueHolds(made(80, 0, 4, "", row('a', 80)), 80, 0, 0, 0);
+        dueHolds(made(20, 0, 0, "b1;b19;", row('a', 80)), 80, 0, 0, 0);
+        dueHolds(made(20, 0, 4, "b1;b19;", row('a', 80)), 80, 0, 5, 15);
+        dueHolds(made(20, 0, 4, "", "a b  c"), 3, 0, 0, 17);
+        dueHolds(made(20, 0, 4, "b1;", "a b  c"), 3, 0, 1, 16);
+        dueHolds(made(20, 0, 4, "l20-;", "\t\t"), 0, 20, 0, 20);
+        dueHolds(made(20, 0, 0, "l19-;", "\ta"), 1, 19, 0, 0);
+        dueHolds(made(20, 0, 0, "b1;b2;b3;b4;b5;b6;b7;b8;", ""), 0, 0, 8, 12);
+        dueHolds(made(20, 0, 4, "", ".,.\t..."), 6, 0, 0, 14);
+    }
+
     private static void allLines() {
         Checks.sentence("2 the number of paragraphs, 3 of all lines, 4 the length of the text, 5 the"
                 + " number of states that are saved for undo()");
@@ -514,6 +588,7 @@ public final class LineEdgesTest {
 
     public static void main(String[] args) {
         emptyOnes();
+        fieldZero();
         indents();
         flow();
         parted();
@@ -521,11 +596,14 @@ public final class LineEdgesTest {
         noStop();
         run();
         beginnings();
+        halves();
+        behindTheRun();
         passing();
         leaders();
         furtherWords();
         bars();
         fields();
+        whatColumnsHold();
         noRemains();
         otherWidths();
         allLines();

@@ -37,8 +37,50 @@ public final class RoomTest {
         }
         Checks.sentence("D, 2 to 20 (at first 8)");
         Checks.due("D", x.count(1), 8);
-        Checks.sentence("ILLEGAL_STATE if there is none.");
+        Checks.sentence("`ILLEGAL_STATE = -2`: The call is not possible in the present state.");
         Checks.refused("undo", TabLines::new, TabLines::undo, Checks.ILLEGAL);
+    }
+
+    private static void fourStyles() {
+        Checks.sentence("There are 4 styles, numbered from 0.");
+        for (int style = 0; style < 4; style++) {
+            TabLines x = new TabLines();
+            x.setIndent(style, 0, 19);
+            x.setIndent(style, 1, 0);
+            x.setStop(style, 80, 3, 3);
+            for (int other = 0; other < 4; other++) {
+                boolean changed = other == style;
+                Checks.due("first indent", x.style(other, 0), changed ? 19 : 0);
+                Checks.due("hanging indent", x.style(other, 1), changed ? 0 : 4);
+                Checks.due("own stops", x.style(other, 2), changed ? 1 : 0);
+                Checks.due("first default stop", x.style(other, 3), changed ? 88 : 8);
+                Checks.due("stop 0", x.stop(other, 0, 0), changed ? 80 : Checks.NONE);
+            }
+        }
+        Checks.due("style 4", new TabLines().style(4, 0), Checks.INVALID);
+        Checks.due("style -1", new TabLines().style(-1, 0), Checks.INVALID);
+    }
+
+    private static void eachStop() {
+        Checks.sentence("A stop has a position, 1 to 80 (no two of a style alike), a kind: 0 left, 1"
+                + " right, 2 middle, 3 point, 4 bar, and a leader: 0 none, 1 \".\", 2 \"-\", 3 \"_\""
+                + " (a bar has none).");
+        int[] positions = {1, 2, 79, 80};
+        for (int position : positions) {
+            TabLines x = new TabLines();
+            for (int kind = 0; kind < 5; kind++) {
+                for (int leader = 0; leader < (kind == 4 ? 1 : 4); leader++) {
+                    Checks.due("setStop", x.setStop(3, position, kind, leader), 0);
+                    Checks.dueStop(x, 3, 0, position, kind, leader);
+                    Checks.due("no two alike", x.style(3, 2), 1);
+                }
+            }
+            Checks.due("a leader again", x.setStop(3, position, 0, 3), 0);
+            Checks.due("a bar in its place", x.setStop(3, position, 4, 0), 0);
+            Checks.dueStop(x, 3, 0, position, 4, 0);
+            Checks.due("removeStop", x.removeStop(3, 0), 0);
+            Checks.due("own stops", x.style(3, 2), 0);
+        }
     }
 
     private static TabLines eightStops() {
@@ -188,9 +230,10 @@ public final class RoomTest {
                 return y;
             }, y -> y.takeText(0), Checks.FULL);
         }
+        Checks.sentence("letters a to z, digits, \".\", \",\", spaces and tabs (code 9).");
+        allCharacters();
         Checks.sentence("-2000 minus the offset of the first character of the text that a"
                 + " paragraph cannot have");
-        allCharacters();
         for (int offset = 0; offset < 100; offset += 33) {
             String text = "a".repeat(offset) + "_" + "-".repeat(99 - offset);
             Checks.refused("takeText", () -> {
@@ -308,12 +351,29 @@ public final class RoomTest {
         }
         TabLines x = ofHundred();
         Checks.due("the 100th stands", x.loadStops(0), -1099);
+        Checks.sentence("Stops can be read from a text of at most 100 characters, which is built one"
+                + " character at a time (it is also the way by which paragraphs get texts)");
+        x = withParagraph();
+        Checks.type(x, "b80;" + " ".repeat(95) + ";");
+        Checks.due("the 100th is read", x.loadStops(0), -1099);
+        x.clearText();
+        Checks.type(x, " ".repeat(96) + "b80;");
+        Checks.due("all 100 are read", x.loadStops(0), 1);
+        Checks.dueStop(x, 0, 0, 80, 4, 0);
+        x = ofHundred();
         Checks.sentence("Makes the text empty.");
         Checks.due("clearText", x.clearText(), 100);
         Checks.due("length", x.count(4), 0);
         Checks.due("clearText", x.clearText(), 0);
         Checks.due("appendCharacter", x.appendCharacter(0), 1);
         Checks.due("clearText", x.clearText(), 1);
+        Checks.sentence("Returns the previous length of the text.");
+        for (int length = 0; length <= 100; length += 20) {
+            x = new TabLines();
+            Checks.type(x, "*".repeat(length));
+            Checks.due("clearText", x.clearText(), length);
+            Checks.due("clearText", x.clearText(), 0);
+        }
         Checks.sentence("0 for the first one");
         x = withText("\t,");
         Checks.due("the first one", x.character(0, 0), 9);
@@ -523,6 +583,8 @@ public final class RoomTest {
 
     public static void main(String[] args) {
         newObject();
+        fourStyles();
+        eachStop();
         stops();
         paragraphs();
         characters();

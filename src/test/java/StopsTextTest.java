@@ -144,6 +144,14 @@ public final class StopsTextTest {
         error("xl0;", 0);
         error("l0;x", 1);
         error("l8;" + " ".repeat(96) + "x", 99);
+        Checks.sentence("The text is read from left to right");
+        error("l8;b8;b7.;", 4);
+        error("b7.;l8;b8;", 2);
+        error("l99;x", 1);
+        error("x;l99;", 0);
+        error("l5 5;l99;", 3);
+        error("l99;l5 5;", 1);
+        error("l1 2", 3);
         Checks.sentence("(for a position above 80, or one that another item of the text has, its"
                 + " first digit; the letter of a ninth item)");
         for (int position = 81; position <= 99; position++) {
