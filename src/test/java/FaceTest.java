@@ -1,10 +1,16 @@
+import java.io.IOException;
 import java.lang.reflect.Constructor;
 import java.lang.reflect.Field;
 import java.lang.reflect.Method;
 import java.lang.reflect.Modifier;
+import java.nio.charset.StandardCharsets;
+import java.nio.file.Files;
+import java.nio.file.Path;
 import java.util.ArrayList;
 import java.util.Collections;
 import java.util.List;
+import java.util.regex.Matcher;
+import java.util.regex.Pattern;
 
 /** The class shows the face that the document gives, and nothing else. */
 public final class FaceTest {
@@ -16,6 +22,44 @@ public final class FaceTest {
         "takeText 1", "addWord 4", "addAmount 2", "count 1", "style 2", "stop 3", "character 2",
         "lines 1", "cell 3", "field 3", "holds 2", "linesWith 2", "leastColumns 2", "undo 0",
     };
+
+    private static final Path DOCUMENT = Path.of("../shared/DOC.md");
+    private static final Pattern CONSTANT =
+            Pattern.compile("    public static final int (\\w+ = -?\\d+);");
+    private static final Pattern CONSTRUCTOR = Pattern.compile("    public TabLines\\(\\);");
+    private static final Pattern METHOD =
+            Pattern.compile("    public int (\\w+)\\(((?:int \\w+(?:, )?)*)\\);");
+
+    /** The face as the document writes it; without the document, the one that is due here. */
+    private static List<String> documented() throws IOException {
+        if (!Files.exists(DOCUMENT)) {
+            System.out.println("the face is not looked up, no document from here");
+            return List.of(DUE);
+        }
+        String text = Files.readString(DOCUMENT, StandardCharsets.UTF_8);
+        String begin = "```java\npublic final class TabLines {\n";
+        int from = text.indexOf(begin);
+        int to = text.indexOf("}\n```", from);
+        if (from < 0 || to < 0) {
+            return List.of();
+        }
+        List<String> face = new ArrayList<>();
+        for (String line : text.substring(from + begin.length(), to).split("\n")) {
+            Matcher constant = CONSTANT.matcher(line);
+            Matcher method = METHOD.matcher(line);
+            if (constant.matches()) {
+                face.add("constant " + constant.group(1));
+            } else if (CONSTRUCTOR.matcher(line).matches()) {
+                face.add("constructor 0");
+            } else if (method.matches()) {
+                String list = method.group(2);
+                face.add(method.group(1) + " " + (list.isEmpty() ? 0 : list.split(", ").length));
+            } else {
+                face.add("another line: " + line);
+            }
+        }
+        return face;
+    }
 
     private static boolean allInts(Class<?>[] types) {
         for (Class<?> type : types) {
@@ -70,12 +114,16 @@ public final class FaceTest {
         return wrong;
     }
 
-    public static void main(String[] args) throws IllegalAccessException {
+    public static void main(String[] args) throws IllegalAccessException, IOException {
         List<String> due = new ArrayList<>(List.of(DUE));
         List<String> got = face();
         Collections.sort(due);
         Collections.sort(got);
         int wrong = hiddenNamesakes();
+        if (!documented().equals(List.of(DUE))) {
+            System.out.println("the document's face is\n" + documented());
+            wrong++;
+        }
         if (!due.equals(got)) {
             System.out.println("the face is\n" + got + ", due is\n" + due);
             wrong++;
